@@ -1,0 +1,90 @@
+/** What the tests share: answers that are due, exceptions by their exact class, and calls that must change nothing. */
+final class Check {
+    static final String NOTHING = "nothing";
+    static final String INDEX = "IndexOutOfBoundsException";
+    static final String ARGUMENT = "IllegalArgumentException";
+    static final String STATE = "IllegalStateException";
+
+    private static int looked = 0;
+    private static int wrong = 0;
+
+    private Check() {
+    }
+
+    interface Call {
+        void run();
+    }
+
+    static void due(String what, long got, long want) {
+        looked++;
+        if (got != want) {
+            fail(what + " answered " + got + ", due is " + want);
+        }
+    }
+
+    static void due(String what, boolean got, boolean want) {
+        due(what, got ? 1 : 0, want ? 1 : 0);
+    }
+
+    /** The exact class is asked for: an exception that the machine throws may be a subclass of the one that is due. */
+    static String thrownBy(Call call) {
+        try {
+            call.run();
+            return NOTHING;
+        } catch (RuntimeException e) {
+            return e.getClass().getSimpleName();
+        }
+    }
+
+    static void same(String what, String got, String want) {
+        looked++;
+        if (!got.equals(want)) {
+            fail(what + ": " + got + ", due is " + want);
+        }
+    }
+
+    /** The call throws what is due and leaves all that can be read as it was. */
+    static void refused(PegBox x, String what, Call call, String want) {
+        String before = all(x);
+        same(what + " throws", thrownBy(call), want);
+        same(what + " leaves", all(x), before);
+    }
+
+    static void taken(String what, Call call) {
+        same(what + " throws", thrownBy(call), NOTHING);
+    }
+
+    /** All that can be read of an object. */
+    static String all(PegBox x) {
+        StringBuilder text = new StringBuilder();
+        text.append("day ").append(x.day()).append(" price ").append(x.finalPrice());
+        text.append(" held ").append(x.held()).append(" paid ").append(x.paid());
+        text.append(" returned ").append(x.returned()).append(" setOff ").append(x.setOff());
+        text.append(" owed ").append(x.owed()).append(" due ").append(x.due());
+        text.append(" outstanding ").append(x.outstanding()).append(" dueOf");
+        for (int kind = 0; kind < 3; kind++) {
+            text.append(' ').append(x.dueOf(kind));
+        }
+        text.append(" claims ").append(x.claims()).append(" settledAt");
+        for (int claim = 0; claim < x.claims(); claim++) {
+            text.append(' ').append(x.settledAt(claim));
+        }
+        text.append(" isMet");
+        for (int year = 0; year < 4; year++) {
+            text.append(' ').append(x.isMet(year));
+        }
+        return text.toString();
+    }
+
+    static void fail(String what) {
+        wrong++;
+        System.out.println(what);
+    }
+
+    static void end(String name) {
+        System.out.println(name + ": " + looked + " looked at, " + wrong + " wrong");
+        if (wrong != 0 || looked == 0) {
+            System.exit(1);
+        }
+    }
+}
