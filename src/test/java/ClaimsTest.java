@@ -99,7 +99,8 @@ public final class ClaimsTest {
     private static void promise10Wrong() {
         PegBox x = plain();
         Check.refused(x, "10: no claim yet", () -> x.offer(0, 0), Check.INDEX);
-        Check.refused(new PegBox(), "10: not closed", () -> new PegBox().offer(0, 0), Check.INDEX);
+        PegBox fresh = new PegBox();
+        Check.refused(fresh, "10: not closed", () -> fresh.offer(0, 0), Check.INDEX);
         x.claim(0, 60);
         x.claim(0, 60);
         for (int claim : new int[] {-1, 2, 20, Integer.MIN_VALUE, Integer.MAX_VALUE}) {
@@ -142,7 +143,8 @@ public final class ClaimsTest {
     private static void promise11Wrong() {
         PegBox x = plain();
         Check.refused(x, "11: no claim yet", () -> x.agree(0), Check.INDEX);
-        Check.refused(new PegBox(), "11: not closed", () -> new PegBox().agree(0), Check.INDEX);
+        PegBox fresh = new PegBox();
+        Check.refused(fresh, "11: not closed", () -> fresh.agree(0), Check.INDEX);
         x.claim(0, 60);
         for (int claim : new int[] {-1, 1, 20, Integer.MIN_VALUE, Integer.MAX_VALUE}) {
             Check.refused(x, "11: no such claim", () -> x.agree(claim), Check.INDEX);
@@ -182,7 +184,8 @@ public final class ClaimsTest {
     private static void promise12Wrong() {
         PegBox x = plain();
         Check.refused(x, "12: no claim yet", () -> x.decide(0, 0), Check.INDEX);
-        Check.refused(new PegBox(), "12: not closed", () -> new PegBox().decide(0, 0), Check.INDEX);
+        PegBox fresh = new PegBox();
+        Check.refused(fresh, "12: not closed", () -> fresh.decide(0, 0), Check.INDEX);
         x.claim(0, 60);
         for (int claim : new int[] {-1, 1, 20, Integer.MIN_VALUE, Integer.MAX_VALUE}) {
             Check.refused(x, "12: no such claim", () -> x.decide(claim, 0), Check.INDEX);
