@@ -432,7 +432,6 @@ public final class PegBox {
         int settledSum(int kind, int least) {
             int sum = 0;
             for (int claim = 0; claim < count; claim++) {
-                // An open claim must be told apart: a least sum of 0 lets every settled one count.
                 if (kinds[claim] == kind && settled[claim] != NONE && settled[claim] >= least) {
                     sum += settled[claim];
                 }

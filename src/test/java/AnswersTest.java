@@ -1,12 +1,8 @@
 /** Promises 15 to 27: what there is, in one run from before closing to its end. */
 public final class AnswersTest {
-    private static final int M = 10000000;
-
     public static void main(String[] args) {
         beforeClosing();
         oneRun();
-        wrongNumbers();
-        theMostOfAll();
         Check.end("AnswersTest");
     }
 
@@ -60,53 +56,5 @@ public final class AnswersTest {
     private static void same(PegBox x, String when, String want) {
         Check.same("15 to 27, " + when, Check.all(x), want);
         Check.same("15 to 27, " + when + ", asked again", Check.all(x), want);
-    }
-
-    private static void wrongNumbers() {
-        PegBox x = new PegBox();
-        for (int round = 0; round < 2; round++) {
-            for (int number : new int[] {-1, 3, 4, Integer.MIN_VALUE, Integer.MAX_VALUE}) {
-                Check.refused(x, "24: no such kind", () -> x.dueOf(number), Check.INDEX);
-            }
-            for (int number : new int[] {-1, 4, Integer.MIN_VALUE, Integer.MAX_VALUE}) {
-                Check.refused(x, "27: no such year", () -> x.isMet(number), Check.INDEX);
-            }
-            int claims = x.claims();
-            for (int number : new int[] {-1, claims, 19, 20, Integer.MIN_VALUE, Integer.MAX_VALUE}) {
-                Check.refused(x, "26: no such claim", () -> x.settledAt(number), Check.INDEX);
-            }
-            if (round == 0) {
-                x.close(0, 0, 0);
-                x.claim(0, 1);
-                x.claim(0, 1);
-            }
-        }
-        Check.due("26: the last claim", x.settledAt(1), PegBox.NONE);
-        Check.due("25: claims", x.claims(), 2);
-    }
-
-    private static void theMostOfAll() {
-        PegBox x = new PegBox();
-        x.setPrice(M, -M, 0);
-        for (int i = 0; i < 4; i++) {
-            x.setPart(i, M, 2000);
-            x.setYear(i, M, M);
-        }
-        for (int kind = 0; kind < 3; kind++) {
-            x.setKind(kind, 0, 0, false, 10 * M, 2000);
-        }
-        x.close(M, 0, M);
-        Check.due("17: the most that is held", x.held(), 4 * M);
-        for (int i = 0; i < 20; i++) {
-            x.claim(i % 3, M);
-        }
-        for (int i = 0; i < 20; i++) {
-            Check.due("12: four are returned", x.decide(i, M), i < 4 ? M : 0);
-        }
-        Check.due("22: the most that is due", x.due(), 20 * M);
-        Check.due("23: the most that is outstanding", x.outstanding(), 16 * M);
-        Check.due("14: the most that is owed", x.speedUp(), 4 * M);
-        Check.due("20: all of it is set off", x.setOff(), 4 * M);
-        Check.due("18: nothing is paid", x.paid(), 0);
     }
 }

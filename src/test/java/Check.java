@@ -54,19 +54,22 @@ final class Check {
         same(what + " throws", thrownBy(call), NOTHING);
     }
 
-    /** All that can be read of an object. */
+    /** Nine readings. */
+    static String sums(PegBox x) {
+        return "day " + x.day() + " price " + x.finalPrice() + " held " + x.held() + " paid " + x.paid() + " returned "
+                + x.returned() + " setOff " + x.setOff() + " owed " + x.owed() + " due " + x.due() + " outstanding "
+                + x.outstanding();
+    }
+
+    /** All that can be read of an object, in 17 readings and one for each claim. */
     static String all(PegBox x) {
-        StringBuilder text = new StringBuilder();
-        text.append("day ").append(x.day()).append(" price ").append(x.finalPrice());
-        text.append(" held ").append(x.held()).append(" paid ").append(x.paid());
-        text.append(" returned ").append(x.returned()).append(" setOff ").append(x.setOff());
-        text.append(" owed ").append(x.owed()).append(" due ").append(x.due());
-        text.append(" outstanding ").append(x.outstanding()).append(" dueOf");
+        StringBuilder text = new StringBuilder(sums(x)).append(" dueOf");
         for (int kind = 0; kind < 3; kind++) {
             text.append(' ').append(x.dueOf(kind));
         }
-        text.append(" claims ").append(x.claims()).append(" settledAt");
-        for (int claim = 0; claim < x.claims(); claim++) {
+        int claims = x.claims();
+        text.append(" claims ").append(claims).append(" settledAt");
+        for (int claim = 0; claim < claims; claim++) {
             text.append(' ').append(x.settledAt(claim));
         }
         text.append(" isMet");

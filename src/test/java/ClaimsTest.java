@@ -5,13 +5,9 @@ public final class ClaimsTest {
     public static void main(String[] args) {
         promise9();
         promise9Twenty();
-        promise9Wrong();
         promise10();
-        promise10Wrong();
         promise11();
-        promise11Wrong();
         promise12();
-        promise12Wrong();
         leastSums();
         wholeBasket();
         otherBasket();
@@ -60,27 +56,6 @@ public final class ClaimsTest {
         Check.due("9: the last one was kept", x.settledAt(19), 1);
     }
 
-    private static void promise9Wrong() {
-        PegBox x = new PegBox();
-        x.setKind(0, 0, 0, true, M, 50);
-        for (int round = 0; round < 2; round++) {
-            for (int kind : new int[] {-1, 3, Integer.MIN_VALUE, Integer.MAX_VALUE}) {
-                Check.refused(x, "9: no such kind", () -> x.claim(kind, 1), Check.INDEX);
-                Check.refused(x, "9: the kind comes first", () -> x.claim(kind, 0), Check.INDEX);
-            }
-            for (int amount : new int[] {0, -1, M + 1, Integer.MIN_VALUE, Integer.MAX_VALUE}) {
-                Check.refused(x, "9: out of range", () -> x.claim(0, amount), Check.ARGUMENT);
-            }
-            if (round == 0) {
-                Check.refused(x, "9: not closed", () -> x.claim(0, 1), Check.STATE);
-                x.close(0, 0, 0);
-            }
-        }
-        x.advance(51);
-        Check.refused(x, "9: the last day is past", () -> x.claim(0, 1), Check.STATE);
-        Check.refused(x, "9: the amount comes before the last day", () -> x.claim(0, 0), Check.ARGUMENT);
-    }
-
     private static void promise10() {
         PegBox x = plain();
         x.claim(0, 60);
@@ -94,26 +69,6 @@ public final class ClaimsTest {
         Check.due("10: an offer returns nothing", x.held(), 400);
         Check.due("10: the last one counts", x.agree(0), 5);
         Check.due("10: the other one's", x.agree(1), 70);
-    }
-
-    private static void promise10Wrong() {
-        PegBox x = plain();
-        Check.refused(x, "10: no claim yet", () -> x.offer(0, 0), Check.INDEX);
-        PegBox fresh = new PegBox();
-        Check.refused(fresh, "10: not closed", () -> fresh.offer(0, 0), Check.INDEX);
-        x.claim(0, 60);
-        x.claim(0, 60);
-        for (int claim : new int[] {-1, 2, 20, Integer.MIN_VALUE, Integer.MAX_VALUE}) {
-            Check.refused(x, "10: no such claim", () -> x.offer(claim, 0), Check.INDEX);
-            Check.refused(x, "10: the claim comes first", () -> x.offer(claim, -1), Check.INDEX);
-        }
-        for (int amount : new int[] {-1, 61, Integer.MIN_VALUE, Integer.MAX_VALUE}) {
-            Check.refused(x, "10: out of range", () -> x.offer(0, amount), Check.ARGUMENT);
-        }
-        Check.due("10: a refused offer is none", x.offer(0, 60), PegBox.NONE);
-        x.decide(1, 10);
-        Check.refused(x, "10: settled", () -> x.offer(1, 10), Check.STATE);
-        Check.refused(x, "10: settled comes before the range", () -> x.offer(1, -1), Check.STATE);
     }
 
     private static void promise11() {
@@ -140,29 +95,6 @@ public final class ClaimsTest {
         Check.due("11: settled at 0", y.settledAt(0), 0);
     }
 
-    private static void promise11Wrong() {
-        PegBox x = plain();
-        Check.refused(x, "11: no claim yet", () -> x.agree(0), Check.INDEX);
-        PegBox fresh = new PegBox();
-        Check.refused(fresh, "11: not closed", () -> fresh.agree(0), Check.INDEX);
-        x.claim(0, 60);
-        for (int claim : new int[] {-1, 1, 20, Integer.MIN_VALUE, Integer.MAX_VALUE}) {
-            Check.refused(x, "11: no such claim", () -> x.agree(claim), Check.INDEX);
-        }
-        Check.refused(x, "11: no offer", () -> x.agree(0), Check.STATE);
-        x.offer(0, 10);
-        x.agree(0);
-        Check.refused(x, "11: settled by agreeing", () -> x.agree(0), Check.STATE);
-        x.claim(0, 60);
-        x.decide(1, 10);
-        Check.refused(x, "11: settled by the expert", () -> x.agree(1), Check.STATE);
-        x.claim(0, 60);
-        x.offer(2, 10);
-        x.decide(2, 20);
-        Check.refused(x, "11: settled above an offer", () -> x.agree(2), Check.STATE);
-        Check.due("11: no claim is paid twice", x.returned(), 40);
-    }
-
     private static void promise12() {
         PegBox x = plain();
         x.claim(0, 60);
@@ -179,28 +111,6 @@ public final class ClaimsTest {
         Check.due("12: settled at", x.settledAt(2), 60);
         Check.due("12: as much as is held", x.decide(3, 600), 320);
         Check.due("12: outstanding", x.outstanding(), 280);
-    }
-
-    private static void promise12Wrong() {
-        PegBox x = plain();
-        Check.refused(x, "12: no claim yet", () -> x.decide(0, 0), Check.INDEX);
-        PegBox fresh = new PegBox();
-        Check.refused(fresh, "12: not closed", () -> fresh.decide(0, 0), Check.INDEX);
-        x.claim(0, 60);
-        for (int claim : new int[] {-1, 1, 20, Integer.MIN_VALUE, Integer.MAX_VALUE}) {
-            Check.refused(x, "12: no such claim", () -> x.decide(claim, 0), Check.INDEX);
-            Check.refused(x, "12: the claim comes first", () -> x.decide(claim, -1), Check.INDEX);
-        }
-        for (int amount : new int[] {-1, 61, Integer.MIN_VALUE, Integer.MAX_VALUE}) {
-            Check.refused(x, "12: out of range", () -> x.decide(0, amount), Check.ARGUMENT);
-        }
-        x.offer(0, 20);
-        for (int amount : new int[] {-1, 0, 19, 61}) {
-            Check.refused(x, "12: out of the range from the offer", () -> x.decide(0, amount), Check.ARGUMENT);
-        }
-        x.decide(0, 30);
-        Check.refused(x, "12: settled", () -> x.decide(0, 30), Check.STATE);
-        Check.refused(x, "12: settled comes before the range", () -> x.decide(0, 61), Check.STATE);
     }
 
     /** Settles claims of a kind at the sums told; answers what is due of it. */

@@ -6,12 +6,10 @@ public final class ClosingTest {
         promise7Price();
         promise7Collar();
         promise7Escrow();
-        promise7Wrong();
         promise8Days();
         promise8Freeing();
         promise8OpenClaims();
         promise8ShortEscrow();
-        promise8Wrong();
         Check.end("ClosingTest");
     }
 
@@ -62,23 +60,6 @@ public final class ClosingTest {
             Check.due("7: what is not held is paid", x.paid(), c[0] - c[1]);
             Check.due("7: nothing is returned", x.returned(), 0);
         }
-    }
-
-    private static void promise7Wrong() {
-        PegBox x = new PegBox();
-        int[][] wrong = {{-1, 0, 0}, {M + 1, 0, 0}, {0, -1, 0}, {0, M + 1, 0}, {0, 0, -M - 1}, {0, 0, M + 1},
-            {Integer.MIN_VALUE, 0, 0}, {0, Integer.MAX_VALUE, 0}, {0, 0, Integer.MIN_VALUE}};
-        for (int[] w : wrong) {
-            Check.refused(x, "7: out of range", () -> x.close(w[0], w[1], w[2]), Check.ARGUMENT);
-        }
-        Check.taken("7: a refused call has not closed it", () -> x.setPrice(50, 0, 0));
-        Check.due("7: then it closes", x.close(M, M, 0), 50);
-        Check.refused(x, "7: closed", () -> x.close(0, 0, 0), Check.STATE);
-        for (int[] w : wrong) {
-            Check.refused(x, "7: the range comes first", () -> x.close(w[0], w[1], w[2]), Check.ARGUMENT);
-        }
-        x.advance(3);
-        Check.refused(x, "7: closed later, too", () -> x.close(1, 1, 1), Check.STATE);
     }
 
     private static void promise8Days() {
@@ -166,17 +147,5 @@ public final class ClosingTest {
         y.advance(10);
         Check.due("8: less than the later parts frees nothing", y.held(), 90);
         Check.due("8: and pays nothing", y.paid(), 0);
-    }
-
-    private static void promise8Wrong() {
-        PegBox x = new PegBox();
-        Check.refused(x, "8: not closed", () -> x.advance(1), Check.STATE);
-        for (int days : new int[] {0, -1, 401, Integer.MIN_VALUE, Integer.MAX_VALUE}) {
-            Check.refused(x, "8: the range comes before not closed", () -> x.advance(days), Check.ARGUMENT);
-        }
-        x.close(0, 0, 0);
-        for (int days : new int[] {0, -1, 401, Integer.MIN_VALUE, Integer.MAX_VALUE}) {
-            Check.refused(x, "8: out of range", () -> x.advance(days), Check.ARGUMENT);
-        }
     }
 }

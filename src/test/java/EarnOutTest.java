@@ -7,11 +7,9 @@ public final class EarnOutTest {
         promise13Carried();
         promise13CarriedEdges();
         promise13SetOff();
-        promise13Wrong();
         promise14();
         promise14Carried();
         promise14SetOff();
-        promise14Wrong();
         Check.end("EarnOutTest");
     }
 
@@ -125,30 +123,6 @@ public final class EarnOutTest {
         Check.due("19: returned", x.returned(), 50);
     }
 
-    private static void promise13Wrong() {
-        PegBox x = new PegBox();
-        Check.refused(x, "13: not closed", () -> x.report(0), Check.STATE);
-        int[] wrong = {-M - 1, M + 1, Integer.MIN_VALUE, Integer.MAX_VALUE};
-        for (int result : wrong) {
-            Check.refused(x, "13: the range comes before not closed", () -> x.report(result), Check.ARGUMENT);
-        }
-        x.close(0, 0, 0);
-        for (int result : wrong) {
-            Check.refused(x, "13: out of range", () -> x.report(result), Check.ARGUMENT);
-        }
-        Check.taken("13: the most of all", () -> x.report(M));
-        Check.taken("13: the least of all", () -> x.report(-M));
-        x.report(0);
-        x.report(0);
-        Check.refused(x, "13: all four were told", () -> x.report(0), Check.STATE);
-        Check.refused(x, "13: the range comes before four", () -> x.report(M + 1), Check.ARGUMENT);
-        PegBox y = years(false);
-        y.report(10);
-        y.speedUp();
-        Check.refused(y, "13: sped up", () -> y.report(20), Check.STATE);
-        Check.refused(y, "13: the range comes before sped up", () -> y.report(M + 1), Check.ARGUMENT);
-    }
-
     private static void promise14() {
         int[] owed = {15, 14, 12, 8, 0};
         String[] met = {"++++", "-+++", "--++", "---+", "----"};
@@ -189,14 +163,5 @@ public final class EarnOutTest {
         Check.due("20: all is set off", y.setOff(), 15);
         Check.due("18: nothing is paid", y.paid(), 0);
         Check.due("23: the rest stays outstanding", y.outstanding(), 4);
-    }
-
-    private static void promise14Wrong() {
-        PegBox x = new PegBox();
-        x.setYear(3, 5, 6);
-        Check.refused(x, "14: not closed", x::speedUp, Check.STATE);
-        x.close(0, 0, 0);
-        Check.due("14: once", x.speedUp(), 6);
-        Check.refused(x, "14: sped up", x::speedUp, Check.STATE);
     }
 }

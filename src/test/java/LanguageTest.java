@@ -9,6 +9,8 @@ import java.util.regex.Pattern;
 /** The rules of LANGUAGE.md that a scan of the program's text can see; it runs in the project's folder. */
 public final class LanguageTest {
     private static final Path PROGRAM = Path.of("src", "main", "java", "PegBox.java");
+    private static final Pattern HEAD =
+            Pattern.compile("^( {4}| {8})(?!.*\\bclass\\b)(?!.*[=;])\\w[\\w\\[\\]<> ]*\\(.*");
     private static final int LONGEST = 60;
     private static final int MOST_FIELDS = 20;
     private static final int MOST_CLASSES = 12;
@@ -59,7 +61,7 @@ public final class LanguageTest {
         List<String> lines = List.of(code.split("\n"));
         int methods = 0;
         for (int i = 0; i < lines.size(); i++) {
-            Matcher head = Pattern.compile("^( {4}| {8})(?!.*\\bclass\\b)(?!.*[=;])\\w[\\w\\[\\]<> ]*\\(.*").matcher(lines.get(i));
+            Matcher head = HEAD.matcher(lines.get(i));
             if (!head.matches()) {
                 continue;
             }

@@ -2,8 +2,8 @@ import java.util.ArrayList;
 import java.util.List;
 
 /**
- * A second settlement for ModelTest to compare with, built otherwise on purpose: it goes through each day, keeps a
- * ledger of payments, and reckons every answer anew out of lists and longs.
+ * A second settlement for ModelTest and GridTest to compare with, built otherwise on purpose: it goes through each day,
+ * keeps a ledger of payments, and reckons every answer anew out of lists and longs.
  */
 final class Model {
     record Part(long amount, int day) {
@@ -87,18 +87,18 @@ final class Model {
     /** Answers what the call of that number answers; 0 for the terms. */
     long call(int number, int[] a) throws Refused {
         switch (number) {
-            case 0: return setPrice(a[0], a[1], a[2]);
-            case 1: return setPart(a[0], a[1], a[2]);
-            case 2: return setKind(a[0], a[1], a[2], (a[5] & 1) == 1, a[3], a[4]);
-            case 3: return setYear(a[0], a[1], a[2]);
-            case 4: return setCarry((a[0] & 1) == 1);
-            case 5: return close(a[0], a[1], a[2]);
-            case 6: return advance(a[0]);
-            case 7: return claim(a[0], a[1]);
-            case 8: return offer(a[0], a[1]);
-            case 9: return agree(a[0]);
-            case 10: return decide(a[0], a[1]);
-            case 11: return report(a[0]);
+            case Calls.SET_PRICE: return setPrice(a[0], a[1], a[2]);
+            case Calls.SET_PART: return setPart(a[0], a[1], a[2]);
+            case Calls.SET_KIND: return setKind(a[0], a[1], a[2], (a[5] & 1) == 1, a[3], a[4]);
+            case Calls.SET_YEAR: return setYear(a[0], a[1], a[2]);
+            case Calls.SET_CARRY: return setCarry((a[0] & 1) == 1);
+            case Calls.CLOSE: return close(a[0], a[1], a[2]);
+            case Calls.ADVANCE: return advance(a[0]);
+            case Calls.CLAIM: return claim(a[0], a[1]);
+            case Calls.OFFER: return offer(a[0], a[1]);
+            case Calls.AGREE: return agree(a[0]);
+            case Calls.DECIDE: return decide(a[0], a[1]);
+            case Calls.REPORT: return report(a[0]);
             default: return speedUp();
         }
     }
@@ -226,7 +226,9 @@ final class Model {
         for (Claim c : claims) {
             kept += c.settled == null ? c.amount : 0;
         }
-        toSellerFromPrice.add(Math.max(0, held() - kept));
+        if (held() > kept) {
+            toSellerFromPrice.add(held() - kept);
+        }
     }
 
     private long report(int result) throws Refused {
@@ -297,15 +299,17 @@ final class Model {
         return due() - sum(toBuyer) - sum(setOffs);
     }
 
-    /** All that can be read, in the form of Check.all. */
+    /** In the form of Check.sums. */
+    String sums() {
+        return "day " + (day == null ? -1 : day) + " price " + (day == null ? -1 : finalPrice) + " held " + held()
+                + " paid " + (sum(toSellerFromPrice) + sum(toSellerFromEarnOut)) + " returned " + sum(toBuyer)
+                + " setOff " + sum(setOffs) + " owed " + (sum(setOffs) + sum(toSellerFromEarnOut)) + " due " + due()
+                + " outstanding " + outstanding();
+    }
+
+    /** In the form of Check.all. */
     String all() {
-        StringBuilder text = new StringBuilder();
-        text.append("day ").append(day == null ? -1 : day).append(" price ").append(day == null ? -1 : finalPrice);
-        text.append(" held ").append(held());
-        text.append(" paid ").append(sum(toSellerFromPrice) + sum(toSellerFromEarnOut));
-        text.append(" returned ").append(sum(toBuyer)).append(" setOff ").append(sum(setOffs));
-        text.append(" owed ").append(sum(setOffs) + sum(toSellerFromEarnOut)).append(" due ").append(due());
-        text.append(" outstanding ").append(outstanding()).append(" dueOf");
+        StringBuilder text = new StringBuilder(sums()).append(" dueOf");
         for (int kind = 0; kind < 3; kind++) {
             text.append(' ').append(dueOf(kind));
         }

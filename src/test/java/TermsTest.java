@@ -5,13 +5,9 @@ public final class TermsTest {
     public static void main(String[] args) {
         promise1();
         promise2();
-        promise2Wrong();
         promise3();
-        promise3Wrong();
         promise4();
-        promise4Wrong();
         promise5();
-        promise5Wrong();
         promise6();
         Check.end("TermsTest");
     }
@@ -57,21 +53,6 @@ public final class TermsTest {
         Check.due("2: price, peg and collar", x.close(0, 0, 0), 500 + 20 - 3);
     }
 
-    private static void promise2Wrong() {
-        PegBox x = new PegBox();
-        x.setPrice(50, 1, 2);
-        int[][] wrong = {{-1, 0, 0}, {M + 1, 0, 0}, {0, -M - 1, 0}, {0, M + 1, 0}, {0, 0, -1}, {0, 0, M + 1},
-            {Integer.MIN_VALUE, 0, 0}, {0, Integer.MIN_VALUE, 0}, {0, 0, Integer.MAX_VALUE}};
-        for (int[] w : wrong) {
-            Check.refused(x, "2: out of range", () -> x.setPrice(w[0], w[1], w[2]), Check.ARGUMENT);
-        }
-        Check.due("2: a refused call changes nothing", x.close(0, 0, 11), 58);
-        Check.refused(x, "2: closed", () -> x.setPrice(0, 0, 0), Check.STATE);
-        for (int[] w : wrong) {
-            Check.refused(x, "2: the range comes first", () -> x.setPrice(w[0], w[1], w[2]), Check.ARGUMENT);
-        }
-    }
-
     private static void promise3() {
         PegBox x = new PegBox();
         x.setPrice(M, 0, 0);
@@ -93,31 +74,6 @@ public final class TermsTest {
         Check.due("3: not before the day", x.held(), 103);
         x.advance(1);
         Check.due("3: part 3 has its day", x.held(), 0);
-    }
-
-    private static void promise3Wrong() {
-        PegBox x = new PegBox();
-        x.setPrice(1000, 0, 0);
-        x.setPart(0, 10, 5);
-        for (int part : new int[] {-1, 4, Integer.MIN_VALUE, Integer.MAX_VALUE}) {
-            Check.refused(x, "3: no such part", () -> x.setPart(part, 0, 1), Check.INDEX);
-            Check.refused(x, "3: the part comes first", () -> x.setPart(part, -1, 0), Check.INDEX);
-        }
-        int[][] wrong = {{-1, 1}, {M + 1, 1}, {0, 0}, {0, 2001}, {0, -1}, {Integer.MAX_VALUE, 1}, {0, Integer.MIN_VALUE}};
-        for (int[] w : wrong) {
-            Check.refused(x, "3: out of range", () -> x.setPart(0, w[0], w[1]), Check.ARGUMENT);
-        }
-        x.close(0, 0, 0);
-        Check.due("3: a refused call changes nothing", x.held(), 10);
-        Check.refused(x, "3: closed", () -> x.setPart(0, 0, 1), Check.STATE);
-        Check.refused(x, "3: the part comes before closed", () -> x.setPart(4, 0, 1), Check.INDEX);
-        for (int[] w : wrong) {
-            Check.refused(x, "3: the range comes before closed", () -> x.setPart(0, w[0], w[1]), Check.ARGUMENT);
-        }
-        x.advance(4);
-        Check.due("3: a refused day changes nothing", x.held(), 10);
-        x.advance(1);
-        Check.due("3: the part's day", x.held(), 0);
     }
 
     private static void promise4() {
@@ -145,29 +101,6 @@ public final class TermsTest {
         Check.refused(x, "4: last day 1", () -> x.claim(2, 1), Check.STATE);
     }
 
-    private static void promise4Wrong() {
-        PegBox x = new PegBox();
-        x.setKind(1, 2, 3, false, 50, 4);
-        for (int kind : new int[] {-1, 3, Integer.MIN_VALUE, Integer.MAX_VALUE}) {
-            Check.refused(x, "4: no such kind", () -> x.setKind(kind, 0, 0, true, 0, 0), Check.INDEX);
-            Check.refused(x, "4: the kind comes first", () -> x.setKind(kind, -1, -1, true, -1, -1), Check.INDEX);
-        }
-        int[][] wrong = {{-1, 0, 0, 0}, {M + 1, 0, 0, 0}, {0, -1, 0, 0}, {0, M + 1, 0, 0}, {0, 0, -1, 0},
-            {0, 0, 10 * M + 1, 0}, {0, 0, 0, -1}, {0, 0, 0, 2001}, {Integer.MIN_VALUE, 0, 0, 0}};
-        for (int[] w : wrong) {
-            Check.refused(x, "4: out of range", () -> x.setKind(1, w[0], w[1], true, w[2], w[3]), Check.ARGUMENT);
-        }
-        x.close(0, 0, 0);
-        x.decide(x.claim(1, 20), 20);
-        Check.due("4: a refused call changes nothing", x.dueOf(1), 17);
-        Check.refused(x, "4: closed", () -> x.setKind(1, 0, 0, true, 0, 0), Check.STATE);
-        Check.refused(x, "4: the kind comes before closed", () -> x.setKind(3, 0, 0, true, 0, 0), Check.INDEX);
-        for (int[] w : wrong) {
-            Check.refused(x, "4: the range comes before closed",
-                    () -> x.setKind(1, w[0], w[1], true, w[2], w[3]), Check.ARGUMENT);
-        }
-    }
-
     private static void promise5() {
         PegBox x = new PegBox();
         for (int year = 0; year < 4; year++) {
@@ -181,26 +114,6 @@ public final class TermsTest {
         Check.due("5: year 1", x.report(10), 0);
         Check.due("5: year 2", x.report(12), 102);
         Check.due("5: year 3", x.report(13), 103);
-    }
-
-    private static void promise5Wrong() {
-        PegBox x = new PegBox();
-        x.setYear(0, 7, 8);
-        for (int year : new int[] {-1, 4, Integer.MIN_VALUE, Integer.MAX_VALUE}) {
-            Check.refused(x, "5: no such year", () -> x.setYear(year, 0, 0), Check.INDEX);
-            Check.refused(x, "5: the year comes first", () -> x.setYear(year, -1, -1), Check.INDEX);
-        }
-        int[][] wrong = {{-1, 0}, {M + 1, 0}, {0, -1}, {0, M + 1}, {Integer.MIN_VALUE, 0}, {0, Integer.MAX_VALUE}};
-        for (int[] w : wrong) {
-            Check.refused(x, "5: out of range", () -> x.setYear(0, w[0], w[1]), Check.ARGUMENT);
-        }
-        x.close(0, 0, 0);
-        Check.refused(x, "5: closed", () -> x.setYear(0, 0, 0), Check.STATE);
-        Check.refused(x, "5: the year comes before closed", () -> x.setYear(4, 0, 0), Check.INDEX);
-        for (int[] w : wrong) {
-            Check.refused(x, "5: the range comes before closed", () -> x.setYear(0, w[0], w[1]), Check.ARGUMENT);
-        }
-        Check.due("5: a refused call changes nothing", x.report(7), 8);
     }
 
     private static void promise6() {
