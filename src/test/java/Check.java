@@ -5,6 +5,9 @@ final class Check {
     static final String ARGUMENT = "IllegalArgumentException";
     static final String STATE = "IllegalStateException";
 
+    private static final int SHOWN = 400;
+    private static final int MOST_TOLD = 100;
+
     private static int looked = 0;
     private static int wrong = 0;
 
@@ -39,8 +42,22 @@ final class Check {
     static void same(String what, String got, String want) {
         looked++;
         if (!got.equals(want)) {
-            fail(what + ": " + got + ", due is " + want);
+            int from = Math.max(0, parting(got, want) - SHOWN / 2);
+            fail(what + ": " + shown(got, from) + ", due is " + shown(want, from));
         }
+    }
+
+    private static int parting(String got, String want) {
+        int i = 0;
+        while (i < got.length() && i < want.length() && got.charAt(i) == want.charAt(i)) {
+            i++;
+        }
+        return i;
+    }
+
+    /** A life's answers are long: only what is near the first difference is shown of them. */
+    private static String shown(String text, int from) {
+        return text.length() <= SHOWN ? text : text.substring(from, Math.min(text.length(), from + SHOWN));
     }
 
     /** The call throws what is due and leaves all that can be read as it was. */
@@ -81,7 +98,9 @@ final class Check {
 
     static void fail(String what) {
         wrong++;
-        System.out.println(what);
+        if (wrong <= MOST_TOLD) {
+            System.out.println(what);
+        }
     }
 
     static void end(String name) {

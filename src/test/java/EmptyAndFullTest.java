@@ -1,5 +1,6 @@
 /**
- * Nothing yet, and full: no terms, no claim, no offer, no year told; 20 claims, four years, the day 4000, the largest sums.
+ * Nothing yet, and full: no terms, no claim, no offer, no year told; 20 claims, four years, the day 4000, the largest
+ * sums.
  */
 public final class EmptyAndFullTest {
     private static final int M = Boxes.M;

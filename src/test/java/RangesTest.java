@@ -150,7 +150,7 @@ public final class RangesTest {
             Check.due("4: least 0", dueOf(kind, 0, 0, true, M, 1), 1);
             Check.due("4: least 10000000, at", dueOf(kind, M, 0, true, M, M), M);
             Check.due("4: least 10000000, below", dueOf(kind, M, 0, true, M, M - 1), 0);
-            outside("4: least", Boxes::terms, 0, M, Check.ARGUMENT, (x, value) -> x.setKind(k, value, 2, true, 3, 4));
+            outside("4: least", Boxes::terms, 0, M, Check.ARGUMENT, (x, value) -> x.setKind(k, value, 2, k == 0, 3, 4));
         }
     }
 
@@ -163,7 +163,8 @@ public final class RangesTest {
             Check.due("4: basket 10000000, whole, at", dueOf(kind, 0, M, true, M, M), M);
             Check.due("4: basket 10000000, not whole, at", dueOf(kind, 0, M, false, M, M), 0);
             Check.due("4: basket 10000000, not whole, above", dueOf(kind, 0, M, false, M, M, 1), 1);
-            outside("4: basket", Boxes::terms, 0, M, Check.ARGUMENT, (x, value) -> x.setKind(k, 1, value, true, 3, 4));
+            outside("4: basket", Boxes::terms, 0, M, Check.ARGUMENT,
+                    (x, value) -> x.setKind(k, 1, value, k == 0, 3, 4));
         }
     }
 
@@ -177,7 +178,7 @@ public final class RangesTest {
             Check.due("4: cap 100000000, at", dueOf(kind, 0, 0, true, 10 * M, and(nine, M)), 10 * M);
             Check.due("4: cap 100000000, above", dueOf(kind, 0, 0, true, 10 * M, and(nine, M, 1)), 10 * M);
             outside("4: cap", Boxes::terms, 0, 10 * M, Check.ARGUMENT,
-                    (x, value) -> x.setKind(k, 1, 2, true, value, 4));
+                    (x, value) -> x.setKind(k, 1, 2, k == 0, value, 4));
         }
     }
 
@@ -203,7 +204,7 @@ public final class RangesTest {
             Check.due("4: last day 2000, on day 2000", onDay(kind, 2000, 2000).claim(kind, 1), 0);
             Twin.refused("4: last day 2000, on day 2001", () -> onDay(k, 2000, 2001), x -> x.claim(k, 1), Check.STATE);
             outside("4: last day", Boxes::terms, 0, 2000, Check.ARGUMENT,
-                    (x, value) -> x.setKind(k, 1, 2, true, 3, value));
+                    (x, value) -> x.setKind(k, 1, 2, k == 0, 3, value));
         }
     }
 
@@ -271,6 +272,14 @@ public final class RangesTest {
         Check.due("8: 400 days", Boxes.closed().advance(400), 400);
         outside("8: days", Boxes::claimed, 1, 400, Check.ARGUMENT, (x, value) -> x.advance(value));
         Twin.refused("8: days -1", Boxes::claimed, x -> x.advance(-1), Check.ARGUMENT);
+        outside("8: days, on the day before a part's", RangesTest::onDay2, 1, 400, Check.ARGUMENT,
+                (x, value) -> x.advance(value));
+    }
+
+    private static PegBox onDay2() {
+        PegBox x = Boxes.closed();
+        x.advance(2);
+        return x;
     }
 
     private static void claimKind() {

@@ -34,9 +34,18 @@ public final class RefusedTest {
     private static void termsWhenClosed() {
         for (Twin.Maker closed : CLOSED) {
             Twin.refused("2: closed", closed, x -> x.setPrice(1, 2, 3), Check.STATE);
-            Twin.refused("3: closed", closed, x -> x.setPart(0, 1, 2), Check.STATE);
-            Twin.refused("4: closed", closed, x -> x.setKind(1, 0, 0, true, 9, 2000), Check.STATE);
-            Twin.refused("5: closed", closed, x -> x.setYear(3, 1, 2), Check.STATE);
+            for (int i = 0; i < 4; i++) {
+                int part = i;
+                Twin.refused("3: closed", closed, x -> x.setPart(part, 1, 2), Check.STATE);
+                Twin.refused("3: closed, later", closed, x -> x.setPart(part, M, 2000), Check.STATE);
+                Twin.refused("5: closed", closed, x -> x.setYear(part, 0, 1), Check.STATE);
+                Twin.refused("5: closed, more", closed, x -> x.setYear(part, M, M), Check.STATE);
+            }
+            for (int i = 0; i < 3; i++) {
+                int kind = i;
+                Twin.refused("4: closed", closed, x -> x.setKind(kind, 0, 0, true, M, 2000), Check.STATE);
+                Twin.refused("4: closed, less", closed, x -> x.setKind(kind, M, M, false, 0, 0), Check.STATE);
+            }
             Twin.refused("6: closed, carried", closed, x -> x.setCarry(true), Check.STATE);
             Twin.refused("6: closed, not carried", closed, x -> x.setCarry(false), Check.STATE);
         }

@@ -28,24 +28,27 @@ final class Twin {
         }
     }
 
-    /** Some 250 calls at most; what all of them answered. */
+    /** What some 320 calls at most answered. */
     static String life(Calls.Side x, int way) {
         StringBuilder text = new StringBuilder();
         tell(text, x, Calls.CLOSE, 1000, 10, new int[] {0, 6000, -6000}[way]);
         text.append(x.sums());
         if (way == 0) {
             offers(text, x);
-            years(text, x, 55, 20, 29, 300);
+            results(text, x, 55, 20, 29, 300);
+            kinds(text, x);
+            days(text, x, 5);
         } else if (way == 1) {
             agreeing(text, x);
-            years(text, x, -5, 200, 9, 0);
+            days(text, x, 1);
+            results(text, x, -5, 200, 9, 3);
         } else {
             deciding(text, x);
             tell(text, x, Calls.SPEED_UP);
+            kinds(text, x);
+            days(text, x, 5);
         }
-        text.append(x.sums());
-        kinds(text, x, way);
-        days(text, x, way);
+        tell(text, x, Calls.ADVANCE, 400);
         tell(text, x, Calls.REPORT, 1);
         tell(text, x, Calls.SPEED_UP);
         return text.append(x.all()).toString();
@@ -69,40 +72,42 @@ final class Twin {
         }
     }
 
+    /** Each is settled at the first number that is allowed, so that its amount and its kind come to light. */
     private static void deciding(StringBuilder text, Calls.Side x) {
         int claims = x.claims();
         for (int claim = 0; claim < claims; claim++) {
-            tell(text, x, Calls.DECIDE, claim, 0);
-            tell(text, x, Calls.DECIDE, claim, 20 + claim);
-            tell(text, x, Calls.OFFER, claim, 61);
-        }
-    }
-
-    private static void years(StringBuilder text, Calls.Side x, int... results) {
-        for (int result : results) {
-            tell(text, x, Calls.REPORT, result);
-        }
-    }
-
-    /** Small sums for the least sums and baskets, and a large one for the caps. */
-    private static void kinds(StringBuilder text, Calls.Side x, int way) {
-        for (int sum : new int[] {4 + way, 9 + way, 33, 2000}) {
-            for (int kind = 0; kind < 3; kind++) {
-                tell(text, x, Calls.CLAIM, kind, 2000);
-                tell(text, x, Calls.DECIDE, x.claims() - 1, sum);
+            for (int amount : new int[] {151, 150, 60, 20 + claim, 5 + claim, 1, 0}) {
+                tell(text, x, Calls.DECIDE, claim, amount);
             }
         }
         text.append(x.all());
     }
 
-    private static void days(StringBuilder text, Calls.Side x, int way) {
+    private static void results(StringBuilder text, Calls.Side x, int... results) {
+        for (int result : results) {
+            tell(text, x, Calls.REPORT, result);
+        }
+    }
+
+    /** Small sums for the least sums, then some that pass the baskets, and one that passes the caps. */
+    private static void kinds(StringBuilder text, Calls.Side x) {
+        for (int sum : new int[] {4, 9, 10, 40, 2000}) {
+            for (int kind = 0; kind < 3; kind++) {
+                tell(text, x, Calls.CLAIM, kind, 2000);
+                tell(text, x, Calls.DECIDE, x.claims() - 1, sum);
+            }
+            text.append(x.sums());
+        }
+    }
+
+    /** Day by day, with a small claim on each for the last days. */
+    private static void days(StringBuilder text, Calls.Side x, int between) {
         for (int i = 0; i < 10; i++) {
             tell(text, x, Calls.ADVANCE, 1);
             tell(text, x, Calls.CLAIM, i % 3, 1);
-            if (i % 3 == way) {
+            if (i % between == 0) {
                 text.append(x.sums());
             }
         }
-        tell(text, x, Calls.ADVANCE, 400);
     }
 }
